@@ -1,6 +1,3 @@
-import java.util.ArrayList;
-import java.util.List;
-
 /** FILES 0 .. 3, CLIENTS 0 .. 2, TAGS 0 .. 4: each call with arguments on and beyond the ends. */
 public final class RangeEdgeTest extends Stories {
     /** Every client has an entry of every file, so that a wrong place would be seen to answer. */
@@ -141,8 +138,7 @@ public final class RangeEdgeTest extends Stories {
     private static void noSuchTag() {
         sentence("False when there is no such tag");
         Story tagged = ONE.then(plainTag(0, 0, 0), branchTag(0, 0, 4));
-        List<Story> stories = new ArrayList<>(List.of(ONE, tagged));
-        for (Story story : stories) {
+        for (Story story : new Story[] {ONE, tagged}) {
             for (int tag : NO_TAGS) {
                 refuses(story, plainTag(0, 0, tag), NO);
                 refuses(story, branchTag(0, 0, tag), NO);
