@@ -414,17 +414,21 @@ public final class RevisionStore {
         }
 
         private static boolean hasMarks(long text) {
-            for (long rest = text; rest > 0; rest /= BASE) {
+            long rest = text;
+            for (int i = 0; i < MAX_LINES; i++) {
                 if (rest % BASE >= OVERLAP_START) {
                     return true;
                 }
+                rest /= BASE;
             }
             return false;
         }
 
         private static int lineCount(long text) {
             int count = 0;
-            for (long rest = text; rest > 0; rest /= BASE) {
+            long rest = text;
+            while (count < MAX_LINES && rest > 0) {
+                rest /= BASE;
                 count++;
             }
             return count;

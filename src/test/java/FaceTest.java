@@ -6,7 +6,10 @@ import java.lang.reflect.Modifier;
 import java.util.Set;
 import java.util.TreeSet;
 
-/** The public face: the document's constants, constructor and methods and nothing else. */
+/**
+ * The public face: the document's constants, constructor and methods and nothing else, and the
+ * classes inside as LANGUAGE.md's rule 1 has them.
+ */
 public final class FaceTest {
     private static final Set<String> METHODS = Set.of(
         "boolean add(int,int,long)", "boolean edit(int,int,long)", "boolean remove(int,int)",
@@ -23,6 +26,7 @@ public final class FaceTest {
     public static void main(String[] args) {
         constants();
         members();
+        classesInside();
         CHECK.end();
     }
 
@@ -64,6 +68,20 @@ public final class FaceTest {
         CHECK.due("constructors", constructors.length, 1);
         CHECK.due("its parameters", constructors[0].getParameterCount(), 0);
         CHECK.yes("it is public", Modifier.isPublic(constructors[0].getModifiers()));
+    }
+
+    private static void classesInside() {
+        for (Class<?> inside : RevisionStore.class.getDeclaredClasses()) {
+            String name = inside.getSimpleName();
+            int modifiers = inside.getModifiers();
+            CHECK.yes(name + " is static", Modifier.isStatic(modifiers));
+            CHECK.no(name + " is public or protected",
+                Modifier.isPublic(modifiers) || Modifier.isProtected(modifiers));
+            for (Method method : inside.getDeclaredMethods()) {
+                CHECK.no(name + "'s " + method.getName() + " bears a public name",
+                    isPublicName(method.getName()));
+            }
+        }
     }
 
     private static boolean isShown(Member member) {
